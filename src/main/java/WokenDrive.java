@@ -217,7 +217,7 @@ public final class WokenDrive {
             if (!imagined.hasOpenOrder()) {
                 return ticks;
             }
-            imagined.letTickPass();
+            imagined.letPass(1);
         }
         return NONE;
     }
@@ -246,7 +246,13 @@ public final class WokenDrive {
             return FAULTS_FROM - fault;
         }
         history.save(drive);
-        return carryOutCommands();
+        text.rewind();
+        int carriedOut = 0;
+        while (carriedOut < LONGEST_TEXT && text.readNext() && faultOfCommand() == FINE) {
+            obeyCommand();
+            carriedOut++;
+        }
+        return carriedOut;
     }
 
     public int undo() throws IllegalStateException {
@@ -309,16 +315,6 @@ public final class WokenDrive {
 
     private int wholeFact(int what) {
         return what == WHOLE_TEXT_LENGTH ? text.length : drive.wholeFact(what);
-    }
-
-    private int carryOutCommands() {
-        text.rewind();
-        int carriedOut = 0;
-        while (carriedOut < LONGEST_TEXT && text.readNext() && faultOfCommand() == FINE) {
-            obeyCommand();
-            carriedOut++;
-        }
-        return carriedOut;
     }
 
     private int faultOfCommand() {
@@ -423,7 +419,8 @@ public final class WokenDrive {
         return isWithin(host, 0, HOSTS - 1) && isWithin(number, 0, NUMBERS - 1) ? FINE : BAD_ARGUMENT;
     }
 
-    // The rows are read and written through these two, so that no index is used that was not looked at.
+    // Rows are read and written through these two and fact() and setFact(), so that every index is looked at before
+    // it is used.
     private static int at(int[] row, int index) {
         return index >= 0 && index < row.length ? row[index] : 0;
     }
@@ -461,11 +458,15 @@ public final class WokenDrive {
         }
 
         int fact(int order, int what) {
-            return at(facts, order * FACTS + what);
+            int index = order * FACTS + what;
+            return index >= 0 && index < facts.length ? facts[index] : 0;
         }
 
         void setFact(int order, int what, int value) {
-            put(facts, order * FACTS + what, value);
+            int index = order * FACTS + what;
+            if (index >= 0 && index < facts.length) {
+                facts[index] = value;
+            }
         }
 
         // ---- what a call is refused for
@@ -604,29 +605,21 @@ public final class WokenDrive {
 
         // ---- ticks and work
 
+        /** Returns the number of orders that are done in the ticks. */
         int letPass(int ticks) {
             int done = 0;
             for (int passed = 0; passed < ticks; passed++) {
-                done += letTickPass();
+                zero.heedAlarm(tick);
+                one.heedAlarm(tick);
+                for (int turn = 0; turn < CONTROLLERS; turn++) {
+                    int controller = (tick + turn) % CONTROLLERS;
+                    if (controllerAt(controller).awake && letWork(controller, ALL_STEPS) != DID_NOTHING) {
+                        done++;
+                    }
+                }
+                tick++;
             }
             return done;
-        }
-
-        /** Returns the number of orders that are done in the tick. */
-        int letTickPass() {
-            zero.heedAlarm(tick);
-            one.heedAlarm(tick);
-            int first = tick & 1;
-            int done = workIfAwake(first) + workIfAwake(1 - first);
-            tick++;
-            return done;
-        }
-
-        private int workIfAwake(int controller) {
-            if (!controllerAt(controller).awake) {
-                return 0;
-            }
-            return letWork(controller, ALL_STEPS) == DID_NOTHING ? 0 : 1;
         }
 
         int letWork(int controller, int steps) {
@@ -640,7 +633,7 @@ public final class WokenDrive {
         }
 
         private void finishTorn(int controller) {
-            writeResult(markerOrder);
+            put(values, fact(markerOrder, BLOCK), resultOn(values, markerOrder));
             complete(controller, markerOrder);
             setFact(markerOrder, FINISHED, 1);
             controllerAt(controller).finished++;
@@ -649,7 +642,7 @@ public final class WokenDrive {
         private int makeSteps(int controller, int order, int steps) {
             begin(order);
             if (steps > 1) {
-                writeResult(order);
+                put(values, fact(order, BLOCK), resultOn(values, order));
             }
             if (steps < ALL_STEPS) {
                 controllerAt(controller).fallAsleepTorn();
@@ -666,10 +659,6 @@ public final class WokenDrive {
             setFact(order, STATE, BEGUN);
         }
 
-        private void writeResult(int order) {
-            put(values, fact(order, BLOCK), resultOn(values, order));
-        }
-
         private void complete(int controller, int order) {
             setFact(order, STATE, DONE);
             setFact(order, DOER, controller);
@@ -681,7 +670,7 @@ public final class WokenDrive {
         private void sortOutMail(int controller, int end) {
             Controller sorter = controllerAt(controller);
             for (int order = 0; order < end; order++) {
-                if (hasMail(controller, order) && !isOpen(order)) {
+                if (hasArrivedMail(controller, order) && !isOpen(order)) {
                     sorter.drop(order);
                     if (fact(order, STATE) == DONE && fact(order, DOER) != controller) {
                         sorter.quarrels++;
@@ -705,12 +694,8 @@ public final class WokenDrive {
             return markerOrder != NONE && fact(markerOrder, STATE) == BEGUN;
         }
 
-        boolean hasArrived(int controller, int order) {
-            return tick >= fact(order, ARRIVAL + controller);
-        }
-
-        boolean hasMail(int controller, int order) {
-            return controllerAt(controller).holds(order) && hasArrived(controller, order);
+        boolean hasArrivedMail(int controller, int order) {
+            return controllerAt(controller).holds(order) && fact(order, ARRIVAL + controller) <= tick;
         }
 
         int latestWith(int host, int number) {
@@ -759,7 +744,7 @@ public final class WokenDrive {
             for (int order = 0; order < orders; order++) {
                 if (isOpen(order)) {
                     int claim = claimOf(order);
-                    if ((claim & claimed) == 0 && hasMail(controller, order)) {
+                    if ((claim & claimed) == 0 && hasArrivedMail(controller, order)) {
                         return order;
                     }
                     claimed |= claim;
@@ -785,7 +770,7 @@ public final class WokenDrive {
             if (!controllerAt(controller).holds(order)) {
                 return NOT_IN_MAILBOX;
             }
-            if (!hasArrived(controller, order)) {
+            if (!hasArrivedMail(controller, order)) {
                 return NOT_ARRIVED;
             }
             return firstAwaited(order) == NONE ? OTHER_TAKEN : WAITS;
@@ -836,7 +821,7 @@ public final class WokenDrive {
         int arrivedMail(int controller) {
             int arrived = 0;
             for (int order = 0; order < orders; order++) {
-                if (hasMail(controller, order)) {
+                if (hasArrivedMail(controller, order)) {
                     arrived++;
                 }
             }
