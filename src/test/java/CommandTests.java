@@ -79,11 +79,13 @@ final class CommandTests {
         other = new WokenDrive();
         other.order(0, 0, 0, 1, 1);
         other.order(0, 1, 0, 2, 1);
+        other.sleep(0);
         other.cancel(0, 1);
-        doesTheSame(new WokenDrive(), "put 0 0 1 1;put 0 1 2 1;cancel 0 1;", other);
+        doesTheSame(new WokenDrive(), "put 0 0 1 1;put 0 1 2 1;sleep 0;cancel 0 1;", other);
         other = new WokenDrive();
+        other.order(0, 1, 0, 2, 1);
         other.sleep(1);
-        doesTheSame(new WokenDrive(), "sleep 0;sleep 1;wake 0;", other);
+        doesTheSame(new WokenDrive(), "put 0 1 2 1;sleep 0;wake 0;sleep 1;", other);
         other = new WokenDrive();
         other.order(0, 0, 1, 1, 9);
         other.work(1, 2);
@@ -153,6 +155,10 @@ final class CommandTests {
         fault("sleep 0;zz", 8);
         fault("block 0;", 0);
         fault("alarm 0 0;", 0);
+        fault("bake 0;", 0);
+        fault("wade 0;", 0);
+        fault("walk 0;", 0);
+        fault("fork 0 1;", 0);
         fault("1", 0);
         fault(";", 0);
         fault("sleep 0;;", 8);
@@ -194,6 +200,13 @@ final class CommandTests {
         fault("ticks /1", 6);
         fault("sleep 0;wake", 12);
         fault("sleep 0; wake 0", 15);
+    }
+
+    static void promise25FaultIsLookedForFromTheFirstByte() {
+        WokenDrive drive = new WokenDrive();
+        Check.same("commands", 2, Check.run(drive, "sleep 0;sleep 1;"));
+        Check.same("fault of another text", -10, Check.run(drive, "x"));
+        Check.same("commands", 1, Check.run(drive, "wake 0;"));
     }
 
     static void promise25FaultKeepsAllFromBeingDone() {

@@ -143,6 +143,12 @@ final class OrderTests {
         drive.pass(3);
         Check.blocks(drive, 0, -3, -2, 0);
         Check.same("done", 6, drive.whole(3));
+        drive.order(0, 6, 2, 15, 2);
+        drive.order(0, 7, 2, 0, 15);
+        drive.order(0, 8, 2, 1, 1);
+        drive.pass(2);
+        Check.blocks(drive, -2, -3, -2, 0);
+        Check.same("block 15", -2, drive.block(15));
     }
 
     static void promise03CancelEndsTheLatestOrderOfATag() {

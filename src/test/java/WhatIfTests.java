@@ -175,6 +175,18 @@ final class WhatIfTests {
         Check.same("all cancelled", 0, drive.doneIn());
     }
 
+    static void promise21DoneInCountsTornOrders() {
+        WokenDrive drive = new WokenDrive();
+        drive.order(0, 0, 1, 0, 1);
+        drive.order(0, 1, 1, 1, 1);
+        drive.work(0, 1);
+        Check.same("one told, one begun", 2, drive.doneIn());
+        drive.cancel(0, 1);
+        Check.same("one begun", 1, drive.doneIn());
+        drive.sleep(1);
+        Check.same("one begun, none awake", -1, drive.doneIn());
+    }
+
     static void promise21DoneInHasALimit() {
         WokenDrive drive = new WokenDrive();
         drive.sleep(0);
@@ -203,6 +215,10 @@ final class WhatIfTests {
         drive.lose(1);
         finals(drive, 0, 8, 5, 8, 0);
         Check.blocks(drive, 0, 0, 0, 0, 0);
+        drive.order(1, 0, 0, 0, 77);
+        drive.order(1, 1, 2, 15, 0);
+        finals(drive, 77, 8, 5, 8, 0);
+        Check.same("finalValue(15)", 77, drive.finalValue(15));
     }
 
     static void promise22FinalValueReckonsATornOrderOnce() {
