@@ -155,6 +155,8 @@ final class CommandTests {
         fault("sleep 0;zz", 8);
         fault("block 0;", 0);
         fault("alarm 0 0;", 0);
+        fault("wakea 0;", 0);
+        fault("wakez 0;", 0);
         fault("bake 0;", 0);
         fault("wade 0;", 0);
         fault("walk 0;", 0);
@@ -206,6 +208,7 @@ final class CommandTests {
         WokenDrive drive = new WokenDrive();
         Check.same("commands", 2, Check.run(drive, "sleep 0;sleep 1;"));
         Check.same("fault of another text", -10, Check.run(drive, "x"));
+        Check.same("fault of a text that ends sooner", -17, Check.run(drive, "sleep 0"));
         Check.same("commands", 1, Check.run(drive, "wake 0;"));
     }
 
