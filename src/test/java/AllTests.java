@@ -7,7 +7,9 @@ import java.util.Comparator;
 public final class AllTests {
     private static final Class<?>[] TEST_CLASSES = {
         FormTests.class, OrderTests.class, ControllerTests.class, ValueTests.class, WhatIfTests.class,
-        CommandTests.class, UndoAndDigestTests.class, PlainDriveTests.class,
+        CommandTests.class, UndoAndDigestTests.class, OrderEdgeTests.class, ControllerEdgeTests.class,
+        WorkEdgeTests.class, ValueEdgeTests.class, WhatIfEdgeTests.class, CommandEdgeTests.class,
+        UndoEdgeTests.class, RefusalTests.class, PlainDriveTests.class,
     };
 
     private AllTests() {

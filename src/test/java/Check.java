@@ -1,7 +1,18 @@
+import java.util.function.Supplier;
+
 /** What the tests say of answers and exceptions; a check that does not hold throws an AssertionError. */
 final class Check {
+    static final Class<IndexOutOfBoundsException> INDEX = IndexOutOfBoundsException.class;
+    static final Class<IllegalArgumentException> ARGUMENT = IllegalArgumentException.class;
+    static final Class<IllegalStateException> STATE = IllegalStateException.class;
+
     interface Call {
         long answer();
+    }
+
+    /** A call on a drive with the one argument that is tried. */
+    interface Trial {
+        long answer(WokenDrive drive, int value);
     }
 
     private Check() {
@@ -35,15 +46,35 @@ final class Check {
     }
 
     static void badIndex(WokenDrive drive, String what, Call call) {
-        refused(drive, IndexOutOfBoundsException.class, what, call);
+        refused(drive, INDEX, what, call);
     }
 
     static void badArgument(WokenDrive drive, String what, Call call) {
-        refused(drive, IllegalArgumentException.class, what, call);
+        refused(drive, ARGUMENT, what, call);
     }
 
     static void badState(WokenDrive drive, String what, Call call) {
-        refused(drive, IllegalStateException.class, what, call);
+        refused(drive, STATE, what, call);
+    }
+
+    /**
+     * The trial has to answer the value itself for the least and the greatest one, each on a drive of its own, and to
+     * be refused just outside and far away.
+     */
+    static void range(String what, int least, int greatest, Class<? extends RuntimeException> due,
+            Supplier<WokenDrive> maker, Trial trial) {
+        same(what, least, trial.answer(maker.get(), least));
+        same(what, greatest, trial.answer(maker.get(), greatest));
+        outside(what, least, greatest, due, maker, trial);
+    }
+
+    static void outside(String what, int least, int greatest, Class<? extends RuntimeException> due,
+            Supplier<WokenDrive> maker, Trial trial) {
+        int[] values = {least - 1, greatest + 1, Integer.MIN_VALUE, Integer.MAX_VALUE};
+        for (int value : values) {
+            WokenDrive drive = maker.get();
+            refused(drive, due, what + " " + value, () -> trial.answer(drive, value));
+        }
     }
 
     static void blocks(WokenDrive drive, long... due) {
