@@ -118,7 +118,10 @@ final class CommandEdgeTests {
         everyByteBetween("work 001", " 2;", (value, place) -> value == ' ' ? NO_FAULT : place);
     }
 
-    /** "each of one to three digits (zeros in front are allowed; a fourth digit cannot stand)": of each number of a command. */
+    /**
+     * "each of one to three digits (zeros in front are allowed; a fourth digit cannot stand)": of each number of a
+     * command.
+     */
     static void promiseTermsOneToFourDigitsOfEachNumber() {
         String[] numbers = {"1", "01", "001", "0001"};
         for (int which = 0; which < 4; which++) {
@@ -189,7 +192,9 @@ final class CommandEdgeTests {
         }
     }
 
-    /** "The fault of a command text is the index of the first byte that cannot stand at its place": not of a later one. */
+    /**
+     * "The fault of a command text is the index of the first byte that cannot stand at its place": not of a later one.
+     */
     static void promiseTermsFirstOfSeveralFaults() {
         fault("wake x; put y; ?", 5);
         fault("sleep 1;wake 1 1;nap 1;", 15);
@@ -205,7 +210,9 @@ final class CommandEdgeTests {
         }
     }
 
-    /** "A word that is not one of these is at fault with its first byte": words with a letter less, more, or another. */
+    /**
+     * "A word that is not one of these is at fault with its first byte": words with a letter less, more, or another.
+     */
     static void promiseTermsWordsThatAreNone() {
         for (String command : COMMANDS) {
             int end = command.indexOf(' ');
@@ -217,8 +224,8 @@ final class CommandEdgeTests {
             fault("ticks 1;" + command.substring(0, end - 1) + "q" + numbers, 8);
             fault(command.substring(0, end).toUpperCase() + numbers, 0);
         }
-        for (String word : new String[] {"alarm 1 2;", "lose 1;", "undo;", "pass 1;", "order 1 2 3 4 5;", "write 1 2 3 4;"}) {
-            fault(word, 0);
+        for (String text : new String[] {"alarm 1 2;", "lose 1;", "undo;", "pass 1;", "order 1 2 0 3 4;", "end 1 2;"}) {
+            fault(text, 0);
         }
     }
 
@@ -276,10 +283,14 @@ final class CommandEdgeTests {
         fault("sleep 0;put 0 0 0 1;ticks 5", 27);
     }
 
-    /** "until one of them would throw an exception, which is not thrown; those before it stay done, and they alone count" */
+    /**
+     * "until one of them would throw an exception, which is not thrown; those before it stay done, and they alone
+     * count"
+     */
     static void promiseTermsRunStopsAtACommandThatWouldThrow() {
         String[] texts = {
-            "wake 0;", "sleep 2;", "put 0 0 0 0;", "fence 3 32;", "cancel 1 1;", "work 1 3;", "delay 0 21;", "ticks 51;",
+            "wake 0;", "sleep 2;", "put 0 0 0 0;", "fence 3 32;", "cancel 1 1;", "work 1 3;", "delay 0 21;",
+            "ticks 51;",
         };
         for (String text : texts) {
             WokenDrive drive = new WokenDrive();
@@ -317,7 +328,7 @@ final class CommandEdgeTests {
 
     // ---- promise 23
 
-    /** "`value`: 0 to 127" */
+    /** "`value`: 0 to 127"; "Throws `IllegalArgumentException` if value is out of range" */
     static void promise23ValueRange() {
         Check.outside("value", 0, 127, Check.ARGUMENT, WokenDrive::new, WokenDrive::type);
         WokenDrive drive = new WokenDrive();

@@ -16,7 +16,10 @@ final class ControllerEdgeTests {
         });
     }
 
-    /** "A controller is awake (at first) or asleep; it has a delay (0 to 20; 0 at first), an alarm (0 to 20; 0 at first)" */
+    /**
+     * "A controller is awake (at first) or asleep; it has a delay (0 to 20; 0 at first), an alarm (0 to 20; 0 at
+     * first)"
+     */
     static void promiseTermsControllersAtFirst() {
         WokenDrive drive = new WokenDrive();
         Check.controllerFacts(drive, 0, 1, 0, 0, 0, 0, 0, 0, 0, 0);
@@ -117,7 +120,9 @@ final class ControllerEdgeTests {
         }
     }
 
-    /** "(1) each controller .. is awake; (2) the controllers that are awake work": in the tick of the alarm, and later. */
+    /**
+     * "(1) each controller .. is awake; (2) the controllers that are awake work": in the tick of the alarm, and later.
+     */
     static void promiseTermsAlarmWakesBeforeTheWorkOfItsTick() {
         WokenDrive drive = Drives.asleep();
         drive.pass(1);
@@ -146,7 +151,9 @@ final class ControllerEdgeTests {
         }
     }
 
-    /** "the controllers that are awake work, with three steps": a chain goes on within one tick, a sleeper does nothing. */
+    /**
+     * "the controllers that are awake work, with three steps": a chain goes on within one tick, a sleeper does nothing.
+     */
     static void promiseTermsBothWorkInOneTick() {
         WokenDrive drive = new WokenDrive();
         for (int order = 0; order < 4; order++) {
@@ -171,7 +178,7 @@ final class ControllerEdgeTests {
 
     // ---- promise 4
 
-    /** "`controller`: 0 or 1" */
+    /** "`controller`: 0 or 1"; "Throws `IndexOutOfBoundsException` if there is no such controller" */
     static void promise04ControllerRange() {
         Check.range("controller", 0, 1, Check.INDEX, Drives::asleep, (drive, one) -> {
             drive.wake(one);
@@ -218,7 +225,7 @@ final class ControllerEdgeTests {
 
     // ---- promise 5
 
-    /** "`controller`: 0 or 1" */
+    /** "`controller`: 0 or 1"; "Throws `IndexOutOfBoundsException` if there is no such controller" */
     static void promise05ControllerRange() {
         Check.range("controller", 0, 1, Check.INDEX, WokenDrive::new, (drive, one) -> {
             drive.sleep(one);
@@ -262,7 +269,7 @@ final class ControllerEdgeTests {
 
     // ---- promise 6
 
-    /** "`controller`: 0 or 1" */
+    /** "`controller`: 0 or 1"; "Throws `IndexOutOfBoundsException` if there is no such controller" */
     static void promise06ControllerRange() {
         Check.range("controller", 0, 1, Check.INDEX, WokenDrive::new, (drive, one) -> {
             drive.setDelay(one, 20);
@@ -270,7 +277,7 @@ final class ControllerEdgeTests {
         });
     }
 
-    /** "`delay`: 0 to 20" */
+    /** "`delay`: 0 to 20"; "Throws `IllegalArgumentException` if delay is out of range" */
     static void promise06DelayRange() {
         for (int one = 0; one < 2; one++) {
             int of = one;
@@ -294,12 +301,15 @@ final class ControllerEdgeTests {
 
     /** "Returns the previous delay.": 0 at first, and the greatest. */
     static void promise06PreviousDelay() {
-        WokenDrive drive = new WokenDrive();
-        Check.same("at first", 0, drive.setDelay(1, 20));
-        Check.same("greatest", 20, drive.setDelay(1, 20));
-        Check.same("greatest", 20, drive.setDelay(1, 0));
-        Check.same("least", 0, drive.setDelay(1, 0));
-        Check.same("of the other one", 0, drive.setDelay(0, 1));
+        for (int one = 0; one < 2; one++) {
+            WokenDrive drive = new WokenDrive();
+            Check.same("at first", 0, drive.setDelay(one, 20));
+            Check.same("of the other one at first", 0, drive.setDelay(1 - one, 1));
+            Check.same("greatest", 20, drive.setDelay(one, 20));
+            Check.same("greatest", 20, drive.setDelay(one, 0));
+            Check.same("least", 0, drive.setDelay(one, 0));
+            Check.same("of the other one", 1, drive.setDelay(1 - one, 0));
+        }
     }
 
     /** "If several exceptions of a method apply, the one that is listed first is thrown.": of setDelay. */
@@ -311,7 +321,7 @@ final class ControllerEdgeTests {
 
     // ---- promise 7
 
-    /** "`controller`: 0 or 1" */
+    /** "`controller`: 0 or 1"; "Throws `IndexOutOfBoundsException` if there is no such controller" */
     static void promise07ControllerRange() {
         Check.range("controller", 0, 1, Check.INDEX, WokenDrive::new, (drive, one) -> {
             drive.setAlarm(one, 20);
@@ -319,7 +329,7 @@ final class ControllerEdgeTests {
         });
     }
 
-    /** "`alarm`: 0 to 20" */
+    /** "`alarm`: 0 to 20"; "Throws `IllegalArgumentException` if alarm is out of range" */
     static void promise07AlarmRange() {
         for (int one = 0; one < 2; one++) {
             int of = one;
@@ -332,12 +342,15 @@ final class ControllerEdgeTests {
 
     /** "Returns the previous alarm.": 0 at first, and the greatest. */
     static void promise07PreviousAlarm() {
-        WokenDrive drive = new WokenDrive();
-        Check.same("at first", 0, drive.setAlarm(1, 20));
-        Check.same("greatest", 20, drive.setAlarm(1, 20));
-        Check.same("greatest", 20, drive.setAlarm(1, 0));
-        Check.same("least", 0, drive.setAlarm(1, 0));
-        Check.same("of the other one", 0, drive.setAlarm(0, 1));
+        for (int one = 0; one < 2; one++) {
+            WokenDrive drive = new WokenDrive();
+            Check.same("at first", 0, drive.setAlarm(one, 20));
+            Check.same("of the other one at first", 0, drive.setAlarm(1 - one, 1));
+            Check.same("greatest", 20, drive.setAlarm(one, 20));
+            Check.same("greatest", 20, drive.setAlarm(one, 0));
+            Check.same("least", 0, drive.setAlarm(one, 0));
+            Check.same("of the other one", 1, drive.setAlarm(1 - one, 0));
+        }
     }
 
     /** "If several exceptions of a method apply, the one that is listed first is thrown.": of setAlarm. */
@@ -349,7 +362,7 @@ final class ControllerEdgeTests {
 
     // ---- promise 9
 
-    /** "`ticks`: 1 to 50" */
+    /** "`ticks`: 1 to 50"; "Throws `IllegalArgumentException` if ticks is out of range" */
     static void promise09TicksRange() {
         Check.range("ticks", 1, 50, Check.ARGUMENT, WokenDrive::new, (drive, ticks) -> {
             drive.pass(ticks);
@@ -400,7 +413,7 @@ final class ControllerEdgeTests {
 
     // ---- promise 10
 
-    /** "`controller`: 0 or 1" */
+    /** "`controller`: 0 or 1"; "Throws `IndexOutOfBoundsException` if there is no such controller" */
     static void promise10ControllerRange() {
         Check.range("controller", 0, 1, Check.INDEX, Drives::full, (drive, one) -> {
             drive.lose(one);

@@ -201,7 +201,10 @@ final class OrderEdgeTests {
         }
     }
 
-    /** "both touch a common block": by their blocks, by their operands, or by a block of one and an operand of the other. */
+    /**
+     * "both touch a common block": by their blocks, by their operands, or by a block of one and an operand of the
+     * other.
+     */
     static void promiseTermsCopiesMeetInEitherBlock() {
         long[][] meetings = {{1, 2, 1, 3}, {1, 2, 3, 2}, {1, 2, 3, 1}, {1, 2, 2, 3}, {1, 1, 2, 1}, {15, 0, 0, 14}};
         for (long[] blocks : meetings) {
@@ -285,25 +288,25 @@ final class OrderEdgeTests {
 
     // ---- promise 2
 
-    /** "`host`: 0 to 3" */
+    /** "`host`: 0 to 3"; "Throws `IllegalArgumentException` if an argument is out of range" */
     static void promise02HostRange() {
         Check.range("host", 0, 3, Check.ARGUMENT, WokenDrive::new,
                 (drive, host) -> drive.orderOf(drive.order(host, 0, 0, 0, 0), 0));
     }
 
-    /** "`number`: 0 to 31" */
+    /** "`number`: 0 to 31"; "Throws `IllegalArgumentException` if an argument is out of range" */
     static void promise02NumberRange() {
         Check.range("number", 0, 31, Check.ARGUMENT, WokenDrive::new,
                 (drive, number) -> drive.orderOf(drive.order(0, number, 0, 0, 0), 1));
     }
 
-    /** "`kind`: 0 to 3" */
+    /** "`kind`: 0 to 3"; "Throws `IllegalArgumentException` if an argument is out of range" */
     static void promise02KindRange() {
         Check.range("kind", 0, 3, Check.ARGUMENT, WokenDrive::new,
                 (drive, kind) -> drive.orderOf(drive.order(0, 0, kind, 0, 0), 2));
     }
 
-    /** "`block`: 0 to 15" */
+    /** "`block`: 0 to 15"; "Throws `IllegalArgumentException` if an argument is out of range" */
     static void promise02BlockRange() {
         for (int kind = 0; kind < 3; kind++) {
             int of = kind;
@@ -320,7 +323,7 @@ final class OrderEdgeTests {
         Check.badArgument(drive, "fence of block 15", () -> drive.order(0, 0, 3, 15, 0));
     }
 
-    /** "`operand`: -999 to 999" */
+    /** "`operand`: -999 to 999"; "Throws `IllegalArgumentException` if an argument is out of range" */
     static void promise02OperandRange() {
         for (int kind = 0; kind < 2; kind++) {
             int of = kind;
@@ -389,12 +392,12 @@ final class OrderEdgeTests {
 
     // ---- promise 3
 
-    /** "`host`: 0 to 3" */
+    /** "`host`: 0 to 3"; "Throws `IllegalArgumentException` if an argument is out of range" */
     static void promise03HostRange() {
         Check.range("host", 0, 3, Check.ARGUMENT, Drives::ofEveryHost, (drive, host) -> drive.cancel(host, 31));
     }
 
-    /** "`number`: 0 to 31" */
+    /** "`number`: 0 to 31"; "Throws `IllegalArgumentException` if an argument is out of range" */
     static void promise03NumberRange() {
         Check.range("number", 0, 31, Check.ARGUMENT, Drives::full, (drive, number) -> drive.cancel(0, number));
     }

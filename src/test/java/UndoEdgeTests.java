@@ -39,7 +39,10 @@ final class UndoEdgeTests {
 
     // ---- undo
 
-    /** "saves the whole state .. when it ends normally, also if it changes nothing": each undoable method of an empty drive. */
+    /**
+     * "saves the whole state .. when it ends normally, also if it changes nothing": each undoable method of an empty
+     * drive.
+     */
     static void promiseTermsEveryUndoableMethodSaves() {
         WokenDrive drive = new WokenDrive();
         undoes("order", drive, () -> drive.order(0, 0, 0, 0, 0));
@@ -63,6 +66,43 @@ final class UndoEdgeTests {
         drive.wake(1);
         Check.same("states left", 2, drive.undo());
         Check.same("awake", 0, drive.controller(1, 0));
+    }
+
+    /** "the whole state": the marker, the order torn, and the block, so that what is torn is finished once again. */
+    static void promiseTermsMarkerIsRestored() {
+        WokenDrive drive = Drives.torn(2);
+        drive.work(1, 3);
+        drive.order(3, 0, 0, 5, 1);
+        drive.work(1, 3);
+        drive.undo();
+        drive.undo();
+        Check.same("states left", 1, drive.undo());
+        Check.wholeFacts(drive, 2, 0, 1, 1, 0, 1, 1, 100, 1, 1, 107);
+        Check.same("final value", 107, drive.finalValue(1));
+        Check.same("finished", 1, drive.work(1, 1));
+        Check.same("block", 107, drive.block(1));
+    }
+
+    /** "the whole state": all that is counted of the controllers. */
+    static void promiseTermsCountsOfControllersAreRestored() {
+        for (int one = 0; one < 2; one++) {
+            WokenDrive drive = new WokenDrive();
+            drive.order(0, 0, 0, 0, 1);
+            drive.work(1 - one, 3);
+            drive.order(0, 1, 0, 0, 1);
+            drive.work(one, 2);
+            Check.controllerFacts(drive, one, 0, 0, 0, 1, 1, 0, 0, 1, 1);
+            drive.wake(one);
+            drive.work(one, 1);
+            Check.controllerFacts(drive, one, 1, 0, 0, 1, 1, 1, 1, 1, 1);
+            drive.undo();
+            Check.controllerFacts(drive, one, 1, 0, 0, 1, 1, 0, 0, 1, 1);
+            drive.undo();
+            drive.undo();
+            Check.controllerFacts(drive, one, 1, 0, 0, 2, 2, 0, 0, 0, 0);
+            drive.undo();
+            Check.controllerFacts(drive, one, 1, 0, 0, 1, 1, 0, 0, 0, 0);
+        }
     }
 
     /** "the whole state": an order that takes the place of one undone has nothing of it, not even its arrival. */
@@ -224,7 +264,10 @@ final class UndoEdgeTests {
         Check.holds("some are below zero, some are over it", below && over);
     }
 
-    /** "the number of states on the undo stack; whole() of 0 to 11; for each block block(), and finalValue()": a torn order. */
+    /**
+     * "the number of states on the undo stack; whole() of 0 to 11; for each block block(), and finalValue()": a torn
+     * order.
+     */
     static void promise27DigestOfATornOrder() {
         WokenDrive drive = new WokenDrive();
         drive.setDelay(1, 2);
@@ -250,7 +293,8 @@ final class UndoEdgeTests {
         long due = hashOf(new long[] {4}, new long[] {4, 2, 0, 1, 1, 0, 0, 0, 0, 2, 9, 0}, blocks(2, 9, 10),
                 new long[] {0, 1, 0, 2, 9, 2, 1, 0, 0, 0, -1, -1}, new long[] {0, 2, 1, 2, 1, 0, -1, 0, -1, 0, -1, 0},
                 new long[] {0, 3, 3, 0, 0, 0, -1, 0, -1, 0, 1, 1}, new long[] {0, 4, 0, 0, 0, 3, -1, 0, -1, 0, -1, -1},
-                new long[] {1, 0, 0, 4, 4, 0, 0, 0, 0, 0, 1, 2, 3, 1}, new long[] {1, 0, 5, 3, 3, 1, 0, 0, 0, 1, 2, 3, 1});
+                new long[] {1, 0, 0, 4, 4, 0, 0, 0, 0, 0, 1, 2, 3, 1},
+                new long[] {1, 0, 5, 3, 3, 1, 0, 0, 0, 1, 2, 3, 1});
         Check.same("digest", due, drive.digest());
     }
 

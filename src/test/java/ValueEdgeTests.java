@@ -9,7 +9,7 @@ final class ValueEdgeTests {
 
     // ---- promise 11
 
-    /** "`block`: 0 to 15" */
+    /** "`block`: 0 to 15"; "Throws `IndexOutOfBoundsException` if there is no such block" */
     static void promise11BlockRange() {
         Check.range("block", 0, 15, Check.INDEX, ValueEdgeTests::eachBlockItsNumber, WokenDrive::block);
     }
@@ -25,11 +25,15 @@ final class ValueEdgeTests {
 
     // ---- promise 12
 
-    /** "`order`: number of an order": of none, of one and of forty. */
+    /**
+     * "`order`: number of an order": of none, of one and of forty; "Throws `IndexOutOfBoundsException` if there is no
+     * such order"
+     */
     static void promise12OrderRange() {
         WokenDrive empty = new WokenDrive();
         Check.badIndex(empty, "order 0 of none", () -> empty.orderOf(0, 0));
-        Check.outside("order of one", 0, 0, Check.INDEX, ValueEdgeTests::oneOrder, (drive, order) -> drive.orderOf(order, 0));
+        Check.outside("order of one", 0, 0, Check.INDEX, ValueEdgeTests::oneOrder,
+                (drive, order) -> drive.orderOf(order, 0));
         Check.range("order of forty", 0, 39, Check.INDEX, Drives::full,
                 (drive, order) -> drive.orderOf(order, 4) - 1);
     }
@@ -41,7 +45,10 @@ final class ValueEdgeTests {
         return drive;
     }
 
-    /** "0 host, 1 number of the tag, 2 kind, 3 block, 4 operand, 5 state, 6 the controller by which it was done (NONE if it is not)" */
+    /**
+     * "0 host, 1 number of the tag, 2 kind, 3 block, 4 operand, 5 state, 6 the controller by which it was done (NONE if
+     * it is not)"; "Throws `IllegalArgumentException` if what is out of range"
+     */
     static void promise12WhatRange() {
         WokenDrive drive = oneOrder();
         Check.orderFacts(drive, 0, 3, 31, 2, 15, 14, 0, -1, 6, -1, 0);
@@ -113,18 +120,19 @@ final class ValueEdgeTests {
     /** "If several exceptions of a method apply, the one that is listed first is thrown.": of orderOf. */
     static void promise12WrongOrderGoesBeforeAWrongWhat() {
         for (int what : WRONG_WHATS) {
-            Check.outside("order", 0, 0, Check.INDEX, ValueEdgeTests::oneOrder, (drive, order) -> drive.orderOf(order, what));
+            Check.outside("order", 0, 0, Check.INDEX, ValueEdgeTests::oneOrder,
+                    (drive, order) -> drive.orderOf(order, what));
         }
     }
 
     // ---- promise 13
 
-    /** "`host`: 0 to 3" */
+    /** "`host`: 0 to 3"; "Throws `IllegalArgumentException` if an argument is out of range" */
     static void promise13HostRange() {
         Check.range("host", 0, 3, Check.ARGUMENT, Drives::ofEveryHost, (drive, host) -> drive.orderWith(host, 31));
     }
 
-    /** "`number`: 0 to 31" */
+    /** "`number`: 0 to 31"; "Throws `IllegalArgumentException` if an argument is out of range" */
     static void promise13NumberRange() {
         Check.range("number", 0, 31, Check.ARGUMENT, Drives::full, (drive, number) -> drive.orderWith(0, number));
     }
@@ -145,7 +153,7 @@ final class ValueEdgeTests {
 
     // ---- promise 14
 
-    /** "`controller`: 0 or 1" */
+    /** "`controller`: 0 or 1"; "Throws `IndexOutOfBoundsException` if there is no such controller" */
     static void promise14ControllerRange() {
         Check.outside("controller", 0, 1, Check.INDEX, WokenDrive::new, (drive, one) -> drive.controller(one, 0));
         WokenDrive drive = new WokenDrive();
@@ -154,7 +162,10 @@ final class ValueEdgeTests {
         Check.same("awake 1", 0, drive.controller(1, 0));
     }
 
-    /** "0 1 if it is awake or 0 if asleep, 1 delay, 2 alarm, 3 orders in its mailbox, 4 of these those that have arrived" */
+    /**
+     * "0 1 if it is awake or 0 if asleep, 1 delay, 2 alarm, 3 orders in its mailbox, 4 of these those that have
+     * arrived"; "Throws `IllegalArgumentException` if what is out of range"
+     */
     static void promise14WhatRange() {
         for (int one = 0; one < 2; one++) {
             int of = one;
@@ -178,6 +189,11 @@ final class ValueEdgeTests {
         drive.work(1, 3);
         Check.controllerFacts(drive, 0, 0, 0, 0, 1, 1, 1, 0, 0, 1);
         Check.controllerFacts(drive, 1, 1, 0, 0, 1, 1, 1, 1, 1, 0);
+        WokenDrive other = Drives.torn(1);
+        other.wake(0);
+        other.work(0, 3);
+        Check.controllerFacts(other, 0, 1, 0, 0, 1, 1, 2, 1, 0, 1);
+        Check.controllerFacts(other, 1, 1, 0, 0, 1, 1, 0, 0, 1, 0);
     }
 
     /** "3 orders in its mailbox", "5 orders done by it": from none to forty. */
@@ -209,13 +225,14 @@ final class ValueEdgeTests {
     /** "If several exceptions of a method apply, the one that is listed first is thrown.": of controller. */
     static void promise14WrongControllerGoesBeforeAWrongWhat() {
         for (int what : WRONG_WHATS) {
-            Check.outside("controller", 0, 1, Check.INDEX, WokenDrive::new, (drive, one) -> drive.controller(one, what));
+            Check.outside("controller", 0, 1, Check.INDEX, WokenDrive::new,
+                    (drive, one) -> drive.controller(one, what));
         }
     }
 
     // ---- promise 15
 
-    /** "`controller`: 0 or 1" */
+    /** "`controller`: 0 or 1"; "Throws `IndexOutOfBoundsException` if there is no such controller" */
     static void promise15ControllerRange() {
         Check.range("controller", 0, 1, Check.INDEX, () -> {
             WokenDrive drive = Drives.full();
@@ -266,7 +283,10 @@ final class ValueEdgeTests {
 
     // ---- promise 16
 
-    /** "`what`: 0 orders, 1 to 4 the orders in the states 0 to 3, 5 tick, 6 the order of the marker (NONE at first)" */
+    /**
+     * "`what`: 0 orders, 1 to 4 the orders in the states 0 to 3, 5 tick, 6 the order of the marker (NONE at first)";
+     * "Throws `IllegalArgumentException` if what is out of range"
+     */
     static void promise16WhatRange() {
         WokenDrive drive = new WokenDrive();
         Check.wholeFacts(drive, 0, 0, 0, 0, 0, 0, -1, 0, 0, 2, 0, 0);
@@ -301,7 +321,9 @@ final class ValueEdgeTests {
         Check.same("tick", 9999, Drives.atTick(9999).whole(5));
     }
 
-    /** "6 the order of the marker (NONE at first), 7 the value of the marker": the marker stays when its order is done. */
+    /**
+     * "6 the order of the marker (NONE at first), 7 the value of the marker": the marker stays when its order is done.
+     */
     static void promise16MarkerStaysWhenItsOrderIsDone() {
         WokenDrive drive = Drives.torn(3);
         drive.pass(9);

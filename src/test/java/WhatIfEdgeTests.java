@@ -26,7 +26,10 @@ final class WhatIfEdgeTests {
 
     // ---- promise 17
 
-    /** "`order`: number of an order": of none, and of forty. */
+    /**
+     * "`order`: number of an order": of none, and of forty; "Throws `IndexOutOfBoundsException` if there is no such
+     * order"
+     */
     static void promise17OrderRange() {
         WokenDrive empty = new WokenDrive();
         Check.badIndex(empty, "order 0 of none", () -> empty.waitsFor(0));
@@ -69,7 +72,10 @@ final class WhatIfEdgeTests {
 
     // ---- promise 18
 
-    /** "`order`: number of an order": of none, and of forty. */
+    /**
+     * "`order`: number of an order": of none, and of forty; "Throws `IndexOutOfBoundsException` if there is no such
+     * order"
+     */
     static void promise18OrderRange() {
         WokenDrive empty = new WokenDrive();
         Check.badIndex(empty, "order 0 of none", () -> empty.depth(0));
@@ -125,7 +131,7 @@ final class WhatIfEdgeTests {
 
     // ---- promise 19
 
-    /** "`controller`: 0 or 1" */
+    /** "`controller`: 0 or 1"; "Throws `IndexOutOfBoundsException` if there is no such controller" */
     static void promise19ControllerRange() {
         Check.range("controller", 0, 1, Check.INDEX, () -> {
             WokenDrive drive = new WokenDrive();
@@ -237,25 +243,29 @@ final class WhatIfEdgeTests {
 
     /** "3 it is not in its mailbox": before its not having arrived and its waiting. */
     static void promise20NotInTheMailboxGoesBeforeNotArrived() {
-        WokenDrive drive = new WokenDrive();
-        drive.setDelay(0, 20);
-        drive.order(0, 0, 0, 0, 1);
-        drive.order(0, 1, 0, 0, 1);
-        drive.lose(0);
-        reasons(drive, 0, 3, 3);
-        drive.pass(20);
-        Check.wholeFacts(drive, 2, 0, 0, 2);
+        for (int one = 0; one < 2; one++) {
+            WokenDrive drive = new WokenDrive();
+            drive.setDelay(one, 20);
+            drive.order(0, 0, 0, 0, 1);
+            drive.order(0, 1, 0, 0, 1);
+            drive.lose(one);
+            reasons(drive, one, 3, 3);
+            reasons(drive, 1 - one, 0, 5);
+        }
     }
 
     /** "4 it has not arrived": before its waiting; to the very tick. */
     static void promise20NotArrivedGoesBeforeWaiting() {
-        WokenDrive drive = Drives.asleep();
-        drive.setDelay(0, 1);
-        drive.order(0, 0, 0, 0, 1);
-        drive.order(0, 1, 0, 0, 1);
-        reasons(drive, 0, 4, 4);
-        drive.pass(1);
-        reasons(drive, 0, 0, 5);
+        for (int one = 0; one < 2; one++) {
+            WokenDrive drive = Drives.asleep();
+            drive.setDelay(one, 1);
+            drive.order(0, 0, 0, 0, 1);
+            drive.order(0, 1, 0, 0, 1);
+            reasons(drive, one, 4, 4);
+            reasons(drive, 1 - one, 0, 5);
+            drive.pass(1);
+            reasons(drive, one, 0, 5);
+        }
     }
 
     /** "5 it waits": before another one being taken. */
@@ -305,7 +315,9 @@ final class WhatIfEdgeTests {
         Check.same("both asleep", 0, drive.doneIn());
     }
 
-    /** "Returns the ticks, 0 to 200": sixty is the most that there can be, with a delay of 20 and forty orders for one. */
+    /**
+     * "Returns the ticks, 0 to 200": sixty is the most that there can be, with a delay of 20 and forty orders for one.
+     */
     static void promise21SixtyTicksAtTheMost() {
         WokenDrive drive = new WokenDrive();
         drive.sleep(0);
@@ -329,7 +341,9 @@ final class WhatIfEdgeTests {
         Check.same("ticks left", 40, drive.doneIn());
     }
 
-    /** "NONE if it would take more": without end, as both sleep, as an order was lost, or as it waits for a lost one. */
+    /**
+     * "NONE if it would take more": without end, as both sleep, as an order was lost, or as it waits for a lost one.
+     */
     static void promise21NoneIfItNeverEnds() {
         WokenDrive asleep = Drives.asleep();
         asleep.order(0, 0, 0, 0, 1);
@@ -384,7 +398,7 @@ final class WhatIfEdgeTests {
 
     // ---- promise 22
 
-    /** "`block`: 0 to 15" */
+    /** "`block`: 0 to 15"; "Throws `IndexOutOfBoundsException` if there is no such block" */
     static void promise22BlockRange() {
         Check.range("block", 0, 15, Check.INDEX, () -> {
             WokenDrive drive = new WokenDrive();

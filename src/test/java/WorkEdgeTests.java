@@ -1,6 +1,6 @@
 /**
- * Boundary cases of the three steps of an order and of a controller's work, promise 8. The remark at each test tells the
- * sentence of the document that it holds.
+ * Boundary cases of the three steps of an order and of a controller's work, promise 8. The remark at each test tells
+ * the sentence of the document that it holds.
  */
 final class WorkEdgeTests {
     private WorkEdgeTests() {
@@ -13,7 +13,10 @@ final class WorkEdgeTests {
 
     // ---- the marker and the steps
 
-    /** "The drive has a marker: the order that was begun last, and the value that its block had before (NONE and 0 at first)." */
+    /**
+     * "The drive has a marker: the order that was begun last, and the value that its block had before (NONE and 0 at
+     * first)."
+     */
     static void promiseTermsMarkerFromTheFirstOrderToTheLast() {
         WokenDrive drive = new WokenDrive();
         marker(drive, -1, 0);
@@ -56,8 +59,8 @@ final class WorkEdgeTests {
     /** "1 the marker becomes this order, and the value of its block": of a copy its own block, not the one it reads. */
     static void promiseTermsFirstStepOfACopy() {
         WokenDrive drive = new WokenDrive();
-        drive.order(0, 0, 0, 15, 7);
-        drive.order(0, 1, 0, 14, 9);
+        drive.order(0, 0, 0, 14, 9);
+        drive.order(0, 1, 0, 15, 7);
         drive.pass(1);
         drive.order(0, 2, 2, 15, 14);
         drive.work(1, 1);
@@ -168,7 +171,10 @@ final class WorkEdgeTests {
         Check.wholeFacts(drive, 4, 1, 0, 2, 1);
     }
 
-    /** "An order that another controller finishes stays in the mailbox of the one that began it, until that one goes through it." */
+    /**
+     * "An order that another controller finishes stays in the mailbox of the one that began it, until that one goes
+     * through it."
+     */
     static void promiseTermsFinishedOrderStaysWithTheOneThatBeganIt() {
         WokenDrive drive = Drives.torn(1);
         drive.work(1, 3);
@@ -315,7 +321,10 @@ final class WorkEdgeTests {
         Check.mailbox(drive, 0, 1, 3);
     }
 
-    /** "if all three are made, it leaves the mailbox; if fewer are, the controller is asleep then (the order stays in its mailbox)" */
+    /**
+     * "if all three are made, it leaves the mailbox; if fewer are, the controller is asleep then (the order stays in
+     * its mailbox)"
+     */
     static void promiseTermsOneTwoAndThreeSteps() {
         for (int steps = 1; steps <= 3; steps++) {
             WokenDrive drive = new WokenDrive();
@@ -331,7 +340,7 @@ final class WorkEdgeTests {
 
     // ---- promise 8
 
-    /** "`controller`: 0 or 1" */
+    /** "`controller`: 0 or 1"; "Throws `IndexOutOfBoundsException` if there is no such controller" */
     static void promise08ControllerRange() {
         Check.range("controller", 0, 1, Check.INDEX, Drives::full, (drive, one) -> {
             drive.work(one, 3);
@@ -339,7 +348,10 @@ final class WorkEdgeTests {
         });
     }
 
-    /** "`steps`: 1 to 3: how many steps of an order it makes, if it takes one" */
+    /**
+     * "`steps`: 1 to 3: how many steps of an order it makes, if it takes one"; "Throws `IllegalArgumentException` if
+     * steps is out of range"
+     */
     static void promise08StepsRange() {
         Check.range("steps", 1, 3, Check.ARGUMENT, Drives::full, (drive, steps) -> {
             drive.work(1, steps);
