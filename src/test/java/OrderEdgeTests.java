@@ -239,6 +239,26 @@ final class OrderEdgeTests {
         Check.same("write of block 0 behind cancelled fences", -1, drive.waitsFor(4));
     }
 
+    /** "one of both is a fence": of whatever block the other one is, from the first to the last. */
+    static void promiseTermsFencesMeetOrdersOfEveryBlock() {
+        for (int kind = 0; kind < 3; kind++) {
+            for (int block = 0; block < 16; block++) {
+                WokenDrive drive = new WokenDrive();
+                drive.order(0, 0, kind, block, block);
+                drive.order(0, 1, 3, 0, 0);
+                drive.order(0, 2, kind, block, block);
+                Check.same("fence behind an order of block " + block, 0, drive.waitsFor(1));
+                drive.pass(1);
+                Check.same("state of the fence behind an order of block " + block, 2, drive.orderOf(1, 5));
+                drive.order(0, 3, 3, 0, 0);
+                drive.cancel(0, 2);
+                drive.order(0, 4, kind, block, block);
+                Check.same("order of block " + block + " behind a fence", 3, drive.waitsFor(4));
+                Check.same("order of block " + block + " is not taken before a fence", 3, drive.nextFor(0));
+            }
+        }
+    }
+
     /** "An order waits for an earlier one that is open": never for itself or for a later one. */
     static void promiseTermsNoOrderWaitsForALaterOne() {
         WokenDrive drive = new WokenDrive();
