@@ -9,7 +9,7 @@ public final class AllTests {
         FormTests.class, OrderTests.class, ControllerTests.class, ValueTests.class, WhatIfTests.class,
         CommandTests.class, UndoAndDigestTests.class, OrderEdgeTests.class, ControllerEdgeTests.class,
         WorkEdgeTests.class, ValueEdgeTests.class, WhatIfEdgeTests.class, CommandEdgeTests.class,
-        UndoEdgeTests.class, RefusalTests.class, PlainDriveTests.class,
+        UndoEdgeTests.class, RefusalTests.class, WhatItIsTests.class, PlainDriveTests.class, ReadmeTests.class,
     };
 
     private AllTests() {
@@ -17,6 +17,7 @@ public final class AllTests {
 
     public static void main(String[] args) throws IllegalAccessException {
         FormTests.source = args.length > 0 ? args[0] : "src/main/java/WokenDrive.java";
+        ReadmeTests.readme = args.length > 1 ? args[1] : "README.md";
         int passed = 0;
         int failed = 0;
         for (Class<?> tests : TEST_CLASSES) {

@@ -1,3 +1,5 @@
+import java.util.function.Consumer;
+
 /**
  * Boundary cases of texts of commands, and of the promises 23 to 25. The remark at each test tells the sentence of the
  * document that it holds.
@@ -275,6 +277,64 @@ final class CommandEdgeTests {
         Check.same("state", 2, drive.orderOf(5, 5));
         Check.same("state", 1, drive.orderOf(6, 5));
         Check.same("block", 8, drive.block(2));
+    }
+
+    /** One drive runs the text, the other one gets the calls; they have to be alike, also once both are undone. */
+    private static void doesAs(String text, Consumer<WokenDrive> calls) {
+        WokenDrive drive = beforeACommand();
+        WokenDrive other = beforeACommand();
+        carriesOut(drive, text, 1);
+        drive.clearCommands();
+        calls.accept(other);
+        Check.same("digest after '" + text + "'", other.digest(), drive.digest());
+        other.undo();
+        drive.undo();
+        Check.same("digest after the undo of '" + text + "'", other.digest(), drive.digest());
+    }
+
+    /** The orders 0 0 and 0 1 are told, controller 1 is asleep. */
+    private static WokenDrive beforeACommand() {
+        WokenDrive drive = new WokenDrive();
+        drive.order(0, 0, 0, 4, 6);
+        drive.order(0, 1, 1, 5, 7);
+        drive.sleep(1);
+        return drive;
+    }
+
+    /**
+     * "put h n b v (order(h, n, 0, b, v)), add h n b v (order(h, n, 1, b, v)), copy h n b c (order(h, n, 2, b, c)),
+     * fence h n (order(h, n, 3, 0, 0)), cancel h n (cancel(h, n)), wake c (wake(c)), sleep c (sleep(c)), work c s
+     * (work(c, s)), delay c d (setDelay(c, d)), ticks n (pass(n))"
+     */
+    static void promiseTermsEachWordMakesItsCall() {
+        doesAs("put 1 2 3 4;", drive -> drive.order(1, 2, 0, 3, 4));
+        doesAs("add 1 2 3 4;", drive -> drive.order(1, 2, 1, 3, 4));
+        doesAs("copy 1 2 3 4;", drive -> drive.order(1, 2, 2, 3, 4));
+        doesAs("fence 1 2;", drive -> drive.order(1, 2, 3, 0, 0));
+        doesAs("cancel 0 1;", drive -> drive.cancel(0, 1));
+        doesAs("wake 1;", drive -> drive.wake(1));
+        doesAs("sleep 0;", drive -> drive.sleep(0));
+        doesAs("work 0 1;", drive -> drive.work(0, 1));
+        doesAs("work 0 2;", drive -> drive.work(0, 2));
+        doesAs("work 0 3;", drive -> drive.work(0, 3));
+        doesAs("delay 1 7;", drive -> drive.setDelay(1, 7));
+        doesAs("ticks 2;", drive -> drive.pass(2));
+    }
+
+    /** "It is a sequence of commands", "otherwise the commands are carried out in their order" */
+    static void promiseTermsCommandsInTheirOrder() {
+        carriesOut(new WokenDrive(), "sleep 0;wake 0;", 2);
+        carriesOut(new WokenDrive(), "wake 0;sleep 0;", 0);
+        WokenDrive drive = new WokenDrive();
+        carriesOut(drive, "put 0 0 1 5;copy 0 1 2 1;add 0 2 1 1;ticks 2;", 4);
+        Check.blocks(drive, 0, 6, 5);
+        WokenDrive other = new WokenDrive();
+        carriesOut(other, "add 0 2 1 1;copy 0 1 2 1;put 0 0 1 5;ticks 2;", 4);
+        Check.blocks(other, 0, 5, 1);
+        WokenDrive third = new WokenDrive();
+        carriesOut(third, "ticks 3;put 0 0 1 5;delay 0 4;put 0 1 2 5;", 4);
+        Check.same("tick told", 3, third.orderOf(0, 7));
+        Check.same("arrived", 1, third.controller(0, 4));
     }
 
     /** "if it has a fault, nothing is done": not even what stands in front of the fault. */

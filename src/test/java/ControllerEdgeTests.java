@@ -43,6 +43,27 @@ final class ControllerEdgeTests {
         }
     }
 
+    /** "a mailbox: the orders that came to it, in the order in which they were told": in whatever order they arrive. */
+    static void promiseTermsMailboxInTheOrderOfTelling() {
+        WokenDrive drive = Drives.asleep();
+        for (int order = 0; order < 6; order++) {
+            drive.setDelay(0, 5 - order);
+            drive.order(3 - order / 2, 31 - order, 0, order, 1);
+        }
+        for (int tick = 0; tick < 6; tick++) {
+            Check.same("arrived at tick " + tick, tick + 1, drive.controller(0, 4));
+            Check.mailbox(drive, 0, 0, 1, 2, 3, 4, 5);
+            Check.same("next at tick " + tick, 5 - tick, drive.nextFor(0));
+            drive.pass(1);
+        }
+        drive.wake(1);
+        drive.cancel(3, 31);
+        drive.work(1, 3);
+        drive.order(0, 0, 0, 0, 1);
+        Check.mailbox(drive, 1, 2, 3, 4, 5, 6);
+        Check.mailbox(drive, 0, 0, 1, 2, 3, 4, 5, 6);
+    }
+
     /** "it has arrived at a controller from the tick at which it was told + the delay that this controller has then" */
     static void promiseTermsArrivalWithEachDelay() {
         for (int delay = 0; delay <= 20; delay++) {

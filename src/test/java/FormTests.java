@@ -24,6 +24,17 @@ final class FormTests {
     private static final String STATE = "IllegalStateException";
     private static final String INDEX = "IndexOutOfBoundsException";
 
+    private static final String[][] HEADINGS = {
+        {"orders", "int order", "int cancel"},
+        {"controllers and ticks", "int wake", "int sleep", "int setDelay", "int setAlarm", "int work", "int pass",
+            "int lose"},
+        {"values", "int block", "int orderOf", "int orderWith", "int controller", "int mail", "int whole"},
+        {"what if, which changes nothing", "int waitsFor", "int depth", "int nextFor", "int reason", "int doneIn",
+            "int finalValue"},
+        {"command text, undo and checksum", "int type", "int clearCommands", "int runCommands", "int undo",
+            "long digest"},
+    };
+
     private FormTests() {
     }
 
@@ -67,6 +78,42 @@ final class FormTests {
                 && Modifier.isPublic(constructors[0].getModifiers()) && constructors[0].getParameterCount() == 0);
         Check.holds("a public final class", Modifier.isPublic(WokenDrive.class.getModifiers())
                 && Modifier.isFinal(WokenDrive.class.getModifiers()));
+    }
+
+    /** "All numbers are whole.": the face knows no other type than int, but for the digest. */
+    static void promiseFaceTakesIntsAlone() {
+        for (Method method : WokenDrive.class.getDeclaredMethods()) {
+            for (Class<?> type : method.getParameterTypes()) {
+                Check.holds(method + " takes ints alone", !Modifier.isPublic(method.getModifiers())
+                        || type == int.class);
+            }
+        }
+    }
+
+    /** "public static final int NONE = -1;" */
+    static void promiseNoneIsAConstantOfTheFace() throws NoSuchFieldException {
+        Field none = WokenDrive.class.getDeclaredField("NONE");
+        Check.holds("NONE is an int", none.getType() == int.class);
+        Check.same("modifiers of NONE", Modifier.PUBLIC | Modifier.STATIC | Modifier.FINAL, none.getModifiers());
+        Check.same("NONE", -1, WokenDrive.NONE);
+    }
+
+    /** "Ahead of the calls `order`, `cancel` the interface says: ---- orders.", and so on. */
+    static void promiseHeadingsStandAheadOfTheirCalls() {
+        String text = sourceText();
+        int from = 0;
+        for (String[] part : HEADINGS) {
+            from = placeBehind(text, "    // ---- " + part[0] + "\n", from);
+            for (int call = 1; call < part.length; call++) {
+                from = placeBehind(text, " " + part[call] + "(", from);
+            }
+        }
+    }
+
+    private static int placeBehind(String text, String piece, int from) {
+        int place = text.indexOf(piece, from);
+        Check.holds("'" + piece.strip() + "' at its place", place >= 0);
+        return place + piece.length();
     }
 
     static void promiseFieldsArePrivateOrTheConstant() {
@@ -132,10 +179,84 @@ final class FormTests {
         Check.holds("only tested indices reach into arrays: " + indices, indices.equals(Set.of("index", "place")));
     }
 
+    /** LANGUAGE.md, rules 2, 11: "the file has at most some twelve classes, and a class some twenty fields". */
+    static void promiseClassesAreFewAndSmall() {
+        List<Class<?>> classes = new ArrayList<>(Arrays.asList(WokenDrive.class.getDeclaredClasses()));
+        Check.holds("classes inside are static and not public", classes.stream().allMatch(each ->
+                Modifier.isStatic(each.getModifiers()) && !Modifier.isPublic(each.getModifiers())));
+        classes.add(WokenDrive.class);
+        Check.holds("at most twelve classes", classes.size() <= 12);
+        for (Class<?> each : classes) {
+            long fields = Arrays.stream(each.getDeclaredFields()).filter(field ->
+                    !Modifier.isStatic(field.getModifiers())).count();
+            Check.holds(each + " has at most twenty fields", fields <= 20);
+            for (Method method : each.getDeclaredMethods()) {
+                Check.holds(method + " takes at most seven parameters", method.getParameterCount() <= 7);
+            }
+        }
+    }
+
+    /** LANGUAGE.md, rule 11: "Methods stay short (some sixty lines)": methods of WokenDrive and of those inside it. */
+    static void promiseMethodsAreShort() {
+        for (String indent : List.of(" ".repeat(4), " ".repeat(8))) {
+            shortBlocks(sourceText().split("\n"), indent);
+        }
+    }
+
+    /** A class is a long block, too; of all that begins so far to the right, only it begins without a bracket. */
+    private static void shortBlocks(String[] lines, String indent) {
+        int start = 0;
+        for (int line = 0; line < lines.length; line++) {
+            if (lines[line].equals(indent + "}")) {
+                Check.holds("lines " + (start + 1) + " to " + (line + 1) + " are a short method",
+                        line - start < 60 || !lines[start].contains("("));
+            } else if (lines[line].startsWith(indent) && lines[line].charAt(indent.length()) != ' ') {
+                start = line;
+            }
+        }
+    }
+
+    /** LANGUAGE.md, rule 3: the file has signs of ASCII alone, and no tabs. */
+    static void promiseSourceHasPlainSigns() {
+        String text = sourceText();
+        for (int place = 0; place < text.length(); place++) {
+            char sign = text.charAt(place);
+            Check.holds("sign " + (int) sign + " at " + place, sign == '\n' || sign >= ' ' && sign <= '~');
+        }
+    }
+
+    /** LANGUAGE.md, rule 6: "throw new E() or throw new E("a written text")", and E one that the document names. */
+    static void promiseThrowsAreThoseOfTheDocument() {
+        Matcher made = Pattern.compile("\\bthrow\\b([^;]*);").matcher(codeWithoutComments());
+        Set<String> thrown = new TreeSet<>();
+        while (made.find()) {
+            Matcher text = Pattern.compile(" new (\\w+)\\((\"[^\"]*\")?\\)").matcher(made.group(1));
+            Check.holds("a written text in" + made.group(1), text.matches());
+            thrown.add(text.group(1));
+        }
+        Check.holds("thrown are " + thrown, thrown.equals(Set.of(ARGUMENT, STATE, INDEX)));
+    }
+
+    /**
+     * LANGUAGE.md, rule 12: "keep it small"; all calls of a run share one room, so no call makes an object but the
+     * exception that it throws: whatever is made, is made for a field, or by a constructor.
+     */
+    static void promiseCallsMakeNoObjects() {
+        for (String line : codeWithoutComments().split("\n")) {
+            String code = line.strip();
+            Check.holds("made for a field: " + code, !Pattern.compile("\\bnew\\b").matcher(code).find()
+                    || code.startsWith("throw new ") || code.startsWith("private final ") || code.startsWith("final ")
+                    || code.equals("saved[place] = new Drive();"));
+        }
+    }
+
     private static String codeWithoutComments() {
+        return sourceText().replaceAll("(?s)/\\*.*?\\*/", " ").replaceAll("//[^\n]*", " ");
+    }
+
+    private static String sourceText() {
         try {
-            String text = Files.readString(Path.of(source));
-            return text.replaceAll("(?s)/\\*.*?\\*/", " ").replaceAll("//[^\n]*", " ");
+            return Files.readString(Path.of(source));
         } catch (IOException e) {
             throw new UncheckedIOException(e);
         }

@@ -126,6 +126,24 @@ final class OrderEdgeTests {
         Check.same("block 15", 6, drive.block(15));
     }
 
+    /** "a kind", "a block, and an operand": they stay with the order, whatever becomes of it. */
+    static void promiseTermsKindBlockAndOperandStay() {
+        for (int kind = 0; kind < 4; kind++) {
+            int block = kind == 3 ? 0 : 9;
+            int operand = kind == 3 ? 0 : 12;
+            WokenDrive drive = new WokenDrive();
+            drive.order(2, 17, kind, block, operand);
+            Check.orderFacts(drive, 0, 2, 17, kind, block, operand, 0);
+            drive.work(0, 1);
+            Check.orderFacts(drive, 0, 2, 17, kind, block, operand, 1);
+            drive.work(1, 1);
+            Check.orderFacts(drive, 0, 2, 17, kind, block, operand, 2);
+            drive.order(2, 17, kind, block, operand);
+            drive.cancel(2, 17);
+            Check.orderFacts(drive, 1, 2, 17, kind, block, operand, 3);
+        }
+    }
+
     /** "3 fence (nothing changes)" */
     static void promiseTermsFenceChangesNoBlock() {
         WokenDrive drive = new WokenDrive();

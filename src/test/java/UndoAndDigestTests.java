@@ -55,6 +55,7 @@ final class UndoAndDigestTests {
         return hash[0];
     }
 
+    /** "Every method that is marked .. saves the whole state": each of them, on a drive with something of everything. */
     static void promise26UndoRestoresEveryUndoableCall() {
         WokenDrive drive = busyDrive();
         undoes("order", drive, () -> drive.order(3, 3, 0, 9, 9));
@@ -86,6 +87,7 @@ final class UndoAndDigestTests {
         Check.same("states left", 0, drive.undo());
     }
 
+    /** "Every method that is marked .. saves the whole state": those that are not marked save nothing. */
     static void promise26CallsThatOnlyAskAreNotSaved() {
         WokenDrive drive = new WokenDrive();
         drive.order(0, 0, 0, 0, 1);

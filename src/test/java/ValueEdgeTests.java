@@ -206,6 +206,22 @@ final class ValueEdgeTests {
         Check.controllerFacts(drive, 1, 0, 0, 0, 40, 40, 0, 0, 0, 0);
     }
 
+    /** "7 its quarrels": not those of the other one; from none to forty, and they stay when the mailbox is empty. */
+    static void promise14QuarrelsOfEach() {
+        for (int one = 0; one < 2; one++) {
+            WokenDrive drive = Drives.full();
+            drive.sleep(one);
+            drive.pass(40);
+            Check.same("quarrels of the sleeper", 0, drive.controller(one, 7));
+            drive.wake(one);
+            drive.pass(1);
+            Check.same("its quarrels", 40, drive.controller(one, 7));
+            Check.same("quarrels of the other one", 0, drive.controller(1 - one, 7));
+            drive.pass(5);
+            Check.same("its quarrels later", 40, drive.controller(one, 7));
+        }
+    }
+
     /** "8 how often it fell asleep with an order begun": not how often it was put to sleep. */
     static void promise14OnlyFallsCount() {
         WokenDrive drive = new WokenDrive();
@@ -249,6 +265,19 @@ final class ValueEdgeTests {
                 Check.same("order", index, drive.mail(one, index));
             }
         }
+    }
+
+    /** "Returns the number of the order; NONE if there are not so many.": its number, not that of its tag. */
+    static void promise15NumberOfTheOrder() {
+        WokenDrive drive = new WokenDrive();
+        drive.order(3, 30, 0, 0, 1);
+        drive.order(3, 20, 0, 0, 1);
+        drive.order(3, 10, 0, 0, 1);
+        drive.work(1, 3);
+        Check.same("first of 1", 1, drive.mail(1, 0));
+        Check.same("second of 1", 2, drive.mail(1, 1));
+        Check.same("third of 1", -1, drive.mail(1, 2));
+        Check.same("third of 0", 2, drive.mail(0, 2));
     }
 
     /** "NONE if there are not so many": just behind the end, and far away. */

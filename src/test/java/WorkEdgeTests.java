@@ -111,6 +111,20 @@ final class WorkEdgeTests {
         }
     }
 
+    /** "An order is done in three steps": each number of steps makes all those before it, too. */
+    static void promiseTermsEachStepAddsToThoseBefore() {
+        for (int steps = 1; steps <= 3; steps++) {
+            WokenDrive drive = new WokenDrive();
+            drive.order(0, 0, 0, 7, 100);
+            drive.pass(5);
+            drive.order(0, 1, 1, 7, 11);
+            drive.work(1, steps);
+            marker(drive, 1, 100);
+            Check.same("block after " + steps, steps < 2 ? 100 : 111, drive.block(7));
+            Check.orderFacts(drive, 1, 0, 1, 1, 7, 11, steps < 3 ? 1 : 2, steps < 3 ? -1 : 1, 5, steps < 3 ? -1 : 5, 0);
+        }
+    }
+
     // ---- (1), the order of the marker
 
     /** "If the order of the marker is begun, it finishes that order": one that is done is no such order. */
@@ -200,6 +214,39 @@ final class WorkEdgeTests {
     }
 
     // ---- (2), the mailbox
+
+    /**
+     * "(2) Otherwise, it goes through its mailbox from the first order on.": with no marker, and with one that is done.
+     */
+    static void promiseTermsGoesThroughItsMailboxFromTheFirstOrderOn() {
+        WokenDrive drive = new WokenDrive();
+        for (int order = 0; order < 4; order++) {
+            drive.order(0, order, 0, order, 1);
+        }
+        drive.cancel(0, 0);
+        Check.same("work without a marker", 2, drive.work(0, 3));
+        Check.mailbox(drive, 0, 2, 3);
+        Check.same("work with a marker that is done", 2, drive.work(0, 3));
+        Check.mailbox(drive, 0, 3);
+        Check.same("work of the other one", 2, drive.work(1, 3));
+        Check.mailbox(drive, 1);
+        Check.same("quarrels", 2, drive.controller(1, 7));
+        marker(drive, 3, 0);
+    }
+
+    /** "If there is one, it makes so many of its steps as are asked for, from the first one on": if not, it makes none. */
+    static void promiseTermsNoStepIfThereIsNone() {
+        for (int steps = 1; steps <= 3; steps++) {
+            WokenDrive drive = Drives.torn(3);
+            drive.setDelay(0, 1);
+            drive.order(0, 1, 0, 1, 5);
+            Check.same("work of " + steps, 0, drive.work(0, steps));
+            marker(drive, 1, 100);
+            Check.same("state", 0, drive.orderOf(2, 5));
+            Check.same("block", 107, drive.block(1));
+            Check.same("awake", 1, drive.controller(0, 0));
+        }
+    }
 
     /** "An order that is done or cancelled and has arrived leaves the mailbox": one that has not arrived stays. */
     static void promiseTermsOrdersThatAreOverLeaveOnceTheyHaveArrived() {
