@@ -55,7 +55,7 @@ final class UndoAndDigestTests {
         return hash[0];
     }
 
-    /** "Every method that is marked .. saves the whole state": each of them, on a drive with something of everything. */
+    /** "Every method that is marked .. saves the whole state": each of them, on a drive with some of everything. */
     static void promise26UndoRestoresEveryUndoableCall() {
         WokenDrive drive = busyDrive();
         undoes("order", drive, () -> drive.order(3, 3, 0, 9, 9));

@@ -213,7 +213,7 @@ final class WhatItIsTests {
         }
     }
 
-    /** "Returns the value that a block would have if all open orders were done now": what the ticks bring in the end. */
+    /** "Returns the value that a block would have if all open orders were done now": what the ticks bring. */
     static void promise22FinalValueIsWhatTheTicksThenBring() {
         int compared = 0;
         for (int seed = 0; seed < WALKS; seed++) {

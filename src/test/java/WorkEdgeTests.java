@@ -234,7 +234,7 @@ final class WorkEdgeTests {
         marker(drive, 3, 0);
     }
 
-    /** "If there is one, it makes so many of its steps as are asked for, from the first one on": if not, it makes none. */
+    /** "If there is one, it makes so many of its steps as are asked for, from the first one on": if not, none. */
     static void promiseTermsNoStepIfThereIsNone() {
         for (int steps = 1; steps <= 3; steps++) {
             WokenDrive drive = Drives.torn(3);
